@@ -51,7 +51,7 @@ public final class ToOneCrumb {
         board = new Board();
         choices = new Choices();
         placing = new Placing();
-        seating = new Seating();
+        seating = new Seating(worths);
         turns = new Turns();
         acts = new int[MOST_ACTS * ACT_FIELDS];
         leasts = new int[MOST_CELLS + 1];
@@ -434,7 +434,7 @@ public final class ToOneCrumb {
             return CANNOT;
         }
         row.clear();
-        return seating.ways(worths, party.size, bread.cells, row);
+        return seating.ways(party.size, bread.cells, row);
     }
 
     // ---- cutting and choosing
@@ -1513,6 +1513,8 @@ public final class ToOneCrumb {
         private final int[] leastTastes = new int[TASTES];
         private final int[] asked = new int[MOST_CELLS];
         private final int[] noLess = new int[MOST_CELLS * MOST_CELLS];
+        /** Cells (bits) whose worth by the tastes that are tried stands in asked. */
+        private int known;
         private int size;
 
         int tell(int cell, int other) {
@@ -1550,7 +1552,7 @@ public final class ToOneCrumb {
                     continue;
                 }
                 for (int cell = 0; cell < loaf.cells; cell++) {
-                    asked[cell] = rule.worthOf(loaf, cell, guest, tried, 0);
+                    ask(cell, rule, loaf, guest);
                 }
                 countThisTime(loaf.cells);
             }
@@ -1578,13 +1580,22 @@ public final class ToOneCrumb {
             tried[0] = number / 100;
             tried[1] = number / 10 % 10;
             tried[2] = number % 10;
+            known = 0;
             for (int choice = 0; choice < size; choice++) {
-                int took = rule.worthOf(loaf, taken[choice], guest, tried, 0);
-                if (took < rule.worthOf(loaf, left[choice], guest, tried, 0)) {
+                int took = ask(taken[choice], rule, loaf, guest);
+                if (took < ask(left[choice], rule, loaf, guest)) {
                     return false;
                 }
             }
             return true;
+        }
+
+        private int ask(int cell, Rule rule, Loaf loaf, int guest) {
+            if ((known >> cell & 1) == 0) {
+                asked[cell] = rule.worthOf(loaf, cell, guest, tried, 0);
+                known |= 1 << cell;
+            }
+            return asked[cell];
         }
     }
 
@@ -1620,7 +1631,7 @@ public final class ToOneCrumb {
 
         boolean readClaims(Text text, int guests) {
             text.start(CLAIM_SIGNS);
-            while (members < MOST_MEMBERS) {
+            for (int claim = 0; claim < MOST_MEMBERS; claim++) {
                 int guest = text.takeLetter(guests);
                 int amount = guest < 0 ? NONE : text.takeNumber(3);
                 if (amount < 0) {
@@ -1709,13 +1720,16 @@ public final class ToOneCrumb {
         private final int[] stops = new int[MOST_CALM];
         private final int[] owners = new int[MOST_CELLS];
         private final int[] best = new int[MOST_CELLS];
-        private Worths worths;
+        private final Worths worths;
         private int guests;
         private int cells;
         private int found;
 
-        int ways(Worths allWorths, int manyGuests, int manyCells, Row row) {
+        Seating(Worths allWorths) {
             worths = allWorths;
+        }
+
+        int ways(int manyGuests, int manyCells, Row row) {
             guests = Math.min(manyGuests, MOST_CALM);
             cells = manyCells;
             found = 0;
