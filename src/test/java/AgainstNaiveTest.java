@@ -73,8 +73,16 @@ public final class AgainstNaiveTest {
             case "quarrel":
                 return random.nextInt(4) != 0 || compare(name);
             default:
-                return compare(name, arguments(name));
+                return compare(name, extreme(arguments(name)));
         }
+    }
+
+    private int[] extreme(int[] arguments) {
+        if (arguments.length > 0 && below(25) == 0) {
+            int[] values = {Integer.MIN_VALUE, Integer.MAX_VALUE, -1, 1 << 16, 1 << 31 | 1};
+            arguments[below(arguments.length)] = values[below(values.length)];
+        }
+        return arguments;
     }
 
     private int around(int many) {
