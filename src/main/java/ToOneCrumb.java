@@ -1229,7 +1229,8 @@ public final class ToOneCrumb {
         private static final int MOST_WORTH = 999;
         /** Steps below this one are numbers, the others are signs behind it. */
         private static final int SIGNS = 1000;
-        private static final int NEGATE = '~';
+        /** A minus ahead of a thing; no sign of a text has this number. */
+        private static final int NEGATE = 256;
         private final int[] steps = new int[MOST_SIGNS];
         private final int[] waiting = new int[MOST_SIGNS];
         private final int[] values = new int[MOST_SIGNS];

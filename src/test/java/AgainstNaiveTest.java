@@ -139,7 +139,7 @@ public final class AgainstNaiveTest {
         String signs = "abcdefghijkxymrp0123456789;,*-+/<>=() ";
         for (int n = below(2); n >= 0; n--) {
             int at = below(changed.length() + 1);
-            char sign = below(20) == 0 ? (char) below(256) : signs.charAt(below(signs.length()));
+            char sign = below(4) == 0 ? (char) below(256) : signs.charAt(below(signs.length()));
             switch (below(4)) {
                 case 0 -> changed.insert(at, sign);
                 case 1 -> changed.setLength(at);

@@ -209,6 +209,8 @@ public final class LoafTest {
         ruleIs("x", -1);
         ruleIs("1234", -4);
         ruleIs("cr", -2);
+        ruleIs("c~r", -2);
+        ruleIs("~c", -1);
         ruleIs("c1", -2);
         ruleIs("1c", -2);
         ruleIs("()", -2);
