@@ -23,7 +23,7 @@ public final class ChanceTest {
         Check.dueRow("41: both come surely", x, 0, 1);
         x.enough(0, 0);
         Check.dueRow("41: nobody comes surely", x, 1, 1);
-        x.enough(10, 9999);
+        Check.due("41: enough for all", x.enough(10, 9999), 0);
         Check.dueRow("41: enough for all", x, 1, 1);
         x.settle(5, 5);
         Check.due("41: p", x.enough(-1, 0), -1);

@@ -72,6 +72,7 @@ public final class ClaimsTest {
         settleIs(0, 4, 2, 3, 1);
         settleIs(4, 0, 3, 2, 1);
         settleIs(0, 999, 598, 599, 7);
+        settleIs(999, 0, 599, 598, 7);
         ToOneCrumb x = new ToOneCrumb();
         x.settle(1, 1);
         Check.due("38: p", x.settle(-1, 0), -1);

@@ -86,5 +86,16 @@ public final class CuttingTest {
         Check.due("32: worth stays", y.worth(0, 1), 4);
         Check.due("32: no turn of his", Check.say(y, "bb").lies(0), 0);
         Check.due("32: one who comes last", Check.say(y, "aba").lies(1), 0);
+        ToOneCrumb z = Check.table("4b15*", "100;010");
+        Check.due("32: by no taste for crumbs", Check.say(z, "aba").lies(0), 3);
+        Check.dueRow("32: by no taste for crumbs", z, 0, 0);
+        ToOneCrumb w = Check.table("154*", "100;001");
+        Check.due("32: by a taste for crust", Check.say(w, "aba").lies(0), 3);
+        Check.dueRow("32: by a taste for crust", w, 2, 2);
+        ToOneCrumb v = Check.table("8c*1f*5a*6f*1f1*", "231;001");
+        Check.due("32: honest", Check.say(v, "abbaab").byturns(), 6);
+        Check.dueRow("32: honest", v, 65, 3);
+        Check.due("32: a lesser lie comes first", Check.say(v, "abbaab").lies(0), 12);
+        Check.dueRow("32: a lesser lie comes first", v, 0, 5);
     }
 }

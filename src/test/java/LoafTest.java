@@ -172,6 +172,9 @@ public final class LoafTest {
         deedsAre("gbb1", -3, 1, 1, 1);
         deedsAre("xad1", -3, 1, 1, 1);
         deedsAre("xa1", -3, 1, 1, 1);
+        deedsAre("xa", -3, 1, 1, 1);
+        deedsAre("gc", -3, 1, 1, 1);
+        deedsAre("gcb", -4, 1, 1, 1);
         deedsAre("fab1", -3, 1, 1, 1);
         deedsAre("fa12", -4, 1, 1, 1);
         deedsAre("z", -1, 1, 1, 1);

@@ -127,5 +127,7 @@ public final class WhoHasWhatTest {
         y.give(1, 0, 1);
         Check.due("23: four alike", y.trade(0, 1), 4);
         Check.dueRow("23: the first of them", y, 2, 0);
+        Check.due("23: four alike, the other way", y.trade(1, 0), 4);
+        Check.dueRow("23: the first of them", y, 0, 2);
     }
 }
