@@ -23,9 +23,34 @@ public final class CuttingTest {
         Check.due("30: like ones", x.cuts(1, 1), -1);
         Check.due("30: none such", x.cuts(0, 4), -1);
         Check.due("30: none such", x.cuts(-1, 0), -1);
+        Check.due("30: none such", x.cuts(4, 0), -1);
+        Check.due("30: none such", x.cuts(0, -1), -1);
+        x.mouse(0);
+        Check.due("30: as if all were on the board", x.cuts(1, 0), 1);
         x.loaf();
         Check.due("30: no cells", x.cuts(0, 1), -1);
         Check.dueRow("30: the row stays", x, 1, 7, 1);
+        cutsAtTheEdge();
+    }
+
+    private static void cutsAtTheEdge() {
+        ToOneCrumb x = Check.table("5", "100;100;000");
+        Check.due("30: one cell, ahead of it as near as behind it", x.cuts(0, 1), 0);
+        Check.dueRow("30: the whole is taken", x, 0, 5, 1);
+        Check.due("30: one to whom both are equal takes the first", x.cuts(0, 2), 0);
+        Check.dueRow("30: the first, of no cells", x, 5, 0, 0);
+        Check.say(x, "115").loaf();
+        Check.due("30: ahead of the last", x.cuts(0, 1), 2);
+        Check.dueRow("30: ahead of the last", x, 2, 5, 1);
+        Check.say(x, "511").loaf();
+        Check.due("30: ahead of the second", x.cuts(0, 1), 1);
+        Check.dueRow("30: ahead of the second", x, 2, 5, 0);
+        Check.say(x, "121").loaf();
+        Check.due("30: 1 and 3 are as near as 3 and 1", x.cuts(0, 1), 1);
+        Check.dueRow("30: of as near ones the first", x, 1, 3, 1);
+        Check.say(x, Check.times("1", 15) + "9").loaf();
+        Check.due("30: sixteen", x.cuts(0, 1), 12);
+        Check.dueRow("30: sixteen, of equal ones the first", x, 12, 12, 0);
     }
 
     private static void byTurns() {
@@ -43,6 +68,17 @@ public final class CuttingTest {
         x.loaf();
         Check.due("31: no cells", Check.say(x, "ab").byturns(), 0);
         Check.dueRow("31: no cells", x, 0, 0, 0);
+        ToOneCrumb y = Check.table(Check.times("1", 15) + "9", "100;200;000;000;000;300");
+        Check.due("31: sixteen turns, sixteen cells", Check.say(y, "fbbbbbbbbbbbbbbb").byturns(), 16);
+        Check.dueRow("31: sixteen turns, sixteen cells", y, 0, 30, 0, 0, 0, 27);
+        Check.due("31: worth nothing is taken too", Check.say(y, "ccccccccccccccca").byturns(), 16);
+        Check.dueRow("31: worth nothing is taken too", y, 9, 0, 0, 0, 0, 0);
+        Check.due("31: holders stay", y.count(2), 16);
+        Check.due("31: nothing to undo", y.count(7), 0);
+        Check.due("31: a letter behind f", Check.say(y, "g").byturns(), -1);
+        Check.due("31: a sign behind sixteen", Check.say(y, "fbbbbbbbbbbbbbbb;").byturns(), -17);
+        Check.due("31: seventeen", Check.say(y, "fbbbbbbbbbbbbbbbf").byturns(), -17);
+        Check.dueRow("31: the row stays", y, 9, 0, 0, 0, 0, 0);
     }
 
     private static void turnsAre(String text, int want) {
@@ -68,7 +104,15 @@ public final class CuttingTest {
         turnsAre(Check.times("a", 17), -17);
         turnsAre(Check.times("a", 16) + "c", -17);
         turnsAre(Check.times("a", 15) + "cc", -16);
+        turnsAre("`", -1);
+        turnsAre("a" + (char) 0, -2);
+        turnsAre("a,b", -2);
         Check.due("31: nobody is there", Check.say(Check.table("123", ""), "a").byturns(), -1);
+        Check.due("31: nobody is there, none said", Check.table("123", "").byturns(), -1);
+        Check.due("32: nobody is there", Check.say(Check.table("123", ""), "a").lies(0), -100);
+        Check.due("32: nobody is there, none said", Check.table("123", "").lies(0), -100);
+        Check.due("32: none such, far above", Check.table("123", "100").lies(Integer.MAX_VALUE), -100);
+        Check.due("32: one is there, none said", Check.table("123", "100").lies(0), -1);
     }
 
     private static void lies() {
@@ -97,5 +141,42 @@ public final class CuttingTest {
         Check.dueRow("32: honest", v, 65, 3);
         Check.due("32: a lesser lie comes first", Check.say(v, "abbaab").lies(0), 12);
         Check.dueRow("32: a lesser lie comes first", v, 0, 5);
+        v.loaf();
+        v.suppers(1, 1);
+        Check.due("32: no cells", Check.say(v, "ab").lies(0), 0);
+        Check.dueRow("32: nothing for 0", v);
+        liesByOneTaste();
+        liesOfTheLast();
+    }
+
+    /** Of all thirty lies just one makes cell 1 the dearest, so that the one takes it ahead of the other one. */
+    private static void liesByOneTaste() {
+        String letters = "abd";
+        for (int what = 0; what < 3; what++) {
+            for (int v = 0; v < 10; v++) {
+                ToOneCrumb x = Check.table("14b5", v == 4 ? "555;000" : "444;000");
+                String lie = letters.charAt(what) + "=" + v;
+                Check.due("32: rule", Check.say(x, "c*(1-i)+r*i+9*(p=1)*(" + lie + ")").rule(), 0);
+                Check.due("32: honest", Check.say(x, "aba").byturns(), 3);
+                Check.due("32: honest", x.row(0), 6);
+                Check.due("32: by " + lie, Check.say(x, "aba").lies(0), 3);
+                Check.dueRow("32: by " + lie, x, what, v);
+                Check.due("32: taste stays", x.guest(0, what), v == 4 ? 5 : 4);
+            }
+        }
+    }
+
+    private static void liesOfTheLast() {
+        ToOneCrumb x = Check.table("14b5*", "000;000;000;000;010;100");
+        Check.due("32: the sixth", Check.say(x, "fef").lies(5), 3);
+        Check.dueRow("32: the sixth", x, 1, 1);
+        Check.due("32: its taste stays", x.guest(5, 1), 0);
+        Check.due("32: none such", Check.say(x, "fef").lies(6), -100);
+        Check.dueRow("32: the row stays", x, 1, 1);
+        x.suppers(1, 1);
+        Check.due("32: one who has no turn", Check.say(x, "fef").lies(0), 0);
+        Check.dueRow("32: nothing for 0", x);
+        x.mouse(1);
+        Check.due("32: all cells, the mouse's too", Check.say(x, "fef").lies(5), 3);
     }
 }
