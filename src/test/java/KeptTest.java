@@ -44,6 +44,41 @@ public final class KeptTest {
         Check.due("45: a refused loaf forgets nothing", x.again(0), true);
         Check.say(x, "123").loaf();
         Check.due("45: a new loaf does", x.again(0), false);
+        Check.due("45: all of them", x.again(1), false);
+        Check.due("45: all of them", x.again(2), false);
+        Check.due("44: far above", x.keep(Integer.MAX_VALUE), false);
+        Check.due("44: far below", x.keep(Integer.MIN_VALUE), false);
+        Check.due("44: 32", x.keep(32), false);
+        keepsEach();
+    }
+
+    private static void keepsEach() {
+        ToOneCrumb x = Check.table(Check.times("1", 16), "100;100;100;100;100;100");
+        for (int i = 0; i < 3; i++) {
+            x.give(5 - i, 14 - i, 14 - i);
+            Check.due("44: under " + i, x.keep(i), true);
+        }
+        x.give(0, 0, 0);
+        x.mouse(15);
+        Check.due("45: far above", x.again(Integer.MAX_VALUE), false);
+        Check.due("45: far below", x.again(Integer.MIN_VALUE), false);
+        Check.due("45: 32", x.again(32), false);
+        Check.due("45: 33", x.again(33), false);
+        Check.due("45: refused, so it is as it was", x.count(2), 11);
+        Check.due("45: and can be undone", x.count(7), 5);
+        for (int i = 2; i >= 0; i--) {
+            Check.due("45: as under " + i, x.again(i), true);
+            Check.due("45: on the board, as under " + i, x.count(2), 15 - i);
+            Check.due("45: the mouse has none, as under " + i, x.count(3), 0);
+            Check.due("45: with whom, as under " + i, x.cell(14 - i, 3), 5 - i);
+            Check.due("45: nothing to undo", x.undo(), -1);
+        }
+        ToOneCrumb y = new ToOneCrumb();
+        Check.due("44: no cells", y.keep(2), true);
+        Check.due("45: no cells", y.again(2), true);
+        Check.due("45: no cells, not kept", y.again(0), false);
+        y.loaf();
+        Check.due("45: an empty loaf forgets too", y.again(2), false);
     }
 
     private static void counts() {
@@ -62,6 +97,23 @@ public final class KeptTest {
         Check.due("46: 10", x.count(10), -100);
         Check.due("46: -1", x.count(-1), -100);
         Check.due("46: min", x.count(Integer.MIN_VALUE), -100);
+        Check.due("46: max", x.count(Integer.MAX_VALUE), -100);
+        ToOneCrumb y = Check.table(Check.times("9", 16), "100;100;100;100;100;100");
+        long[] full = {16, 6, 16, 0, 144, 6, 0, 0, 0, 0};
+        for (int what = 0; what < 10; what++) {
+            Check.due("46: count(" + what + ") of the most", y.count(what), full[what]);
+        }
+        for (int cell = 0; cell < 16; cell++) {
+            y.mouse(cell);
+        }
+        Check.due("46: none on the board", y.count(2), 0);
+        Check.due("46: all with the mouse", y.count(3), 16);
+        Check.due("46: crumbs of all, the mouse's too", y.count(4), 144);
+        y.deeds();
+        Check.due("46: no deserts", y.count(5), 0);
+        y.loaf();
+        Check.due("46: no cells", y.count(0) + y.count(2) + y.count(3) + y.count(4), 0);
+        Check.due("46: guests stay", y.count(1), 6);
     }
 
     private static void rows() {
@@ -90,6 +142,23 @@ public final class KeptTest {
         Check.dueRow("47: stays", x, 6, 2);
         x.envy();
         Check.dueRow("47: told anew", x);
+        Check.say(x, Check.times("1", 16)).loaf();
+        x.taste(0, 0, 0);
+        x.calm();
+        Check.dueRow("47: sixteen", x, new long[16]);
+        dueNoNumber(x, 16);
+        dueNoNumber(x, Integer.MAX_VALUE);
+        dueNoNumber(x, Integer.MIN_VALUE);
+    }
+
+    private static void dueNoNumber(ToOneCrumb x, int i) {
+        boolean thrown = false;
+        try {
+            x.row(i);
+        } catch (java.util.NoSuchElementException e) {
+            thrown = true;
+        }
+        Check.due("47: row(" + i + ") throws", thrown, true);
     }
 
     private static void manyCalls() {
