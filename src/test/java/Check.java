@@ -29,7 +29,7 @@ final class Check {
         dueNoNumber(call, x, -1);
     }
 
-    private static void dueNoNumber(String call, ToOneCrumb x, int i) {
+    static void dueNoNumber(String call, ToOneCrumb x, int i) {
         boolean thrown = false;
         try {
             x.row(i);

@@ -1,4 +1,4 @@
-/** Behind beginnings of each kind of text, each of the 256 signs: it can stand there or not, as the slow model says. */
+/** Promises 4 to 7, 16, 31, 37: behind beginnings of each kind of text, each of the 256 signs can stand or not. */
 public final class EverySignTest {
     private static final String[][] BEGINNINGS = {
         {"loaf", "", "1", "1a", "1*", "1a*", "1111111111111111", "111111111111111i"},
