@@ -303,5 +303,28 @@ public final class FairSlicesTest {
         ToOneCrumb y = Check.table("1a1", "010;100");
         Check.due("29: the first has cell 0", y.calm(), 1);
         Check.dueRow("29: the first has cell 0", y, 0, 1);
+        calmByUnlikeTastes();
+    }
+
+    private static void calmByUnlikeTastes() {
+        ToOneCrumb x = Check.table("31i", "100;010");
+        Check.due("29: what he has is worth more to the other, and 3 to the one", x.calm(), 1);
+        Check.dueRow("29: what he has is worth more to the other, and 3 to the one", x, 0, 1);
+        Check.say(x, "1i3").loaf();
+        Check.due("29: the other way about", x.calm(), 1);
+        Check.dueRow("29: the other way about", x, 1, 0);
+        Check.say(x, "1i1").loaf();
+        Check.due("29: as much is not more", x.calm(), 1);
+        Check.dueRow("29: as much is not more", x, 1, 0);
+        Check.say(x, "2i1").loaf();
+        Check.due("29: both would rather have the first", x.calm(), 0);
+        ToOneCrumb y = Check.table("1*91i", "100;010;001");
+        Check.due("29: each has what he likes", y.calm(), 1);
+        Check.dueRow("29: each has what he likes", y, 2, 0, 1);
+        Check.say(y, "100").guests();
+        Check.due("29: and one more who likes crumbs", y.calm(), 0);
+        Check.say(y, "1*991i").loaf();
+        Check.due("29: either of them", y.calm(), 2);
+        Check.dueRow("29: the least of both", y, 2, 0, 3, 1);
     }
 }
