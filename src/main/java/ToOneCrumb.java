@@ -51,7 +51,7 @@ public final class ToOneCrumb {
         board = new Board();
         choices = new Choices();
         placing = new Placing();
-        seating = new Seating(worths);
+        seating = new Seating();
         turns = new Turns();
         acts = new int[MOST_ACTS * ACT_FIELDS];
         leasts = new int[MOST_CELLS + 1];
@@ -434,7 +434,7 @@ public final class ToOneCrumb {
             return CANNOT;
         }
         row.clear();
-        return seating.ways(party.size, bread.cells, row);
+        return seating.ways(worths, party.size, row);
     }
 
     // ---- cutting and choosing
@@ -1721,29 +1721,24 @@ public final class ToOneCrumb {
         private final int[] stops = new int[MOST_CALM];
         private final int[] owners = new int[MOST_CELLS];
         private final int[] best = new int[MOST_CELLS];
-        private final Worths worths;
         private int guests;
         private int cells;
         private int found;
 
-        Seating(Worths allWorths) {
-            worths = allWorths;
-        }
-
-        int ways(int manyGuests, int manyCells, Row row) {
+        int ways(Worths worths, int manyGuests, Row row) {
             guests = Math.min(manyGuests, MOST_CALM);
-            cells = manyCells;
+            cells = worths.cells;
             found = 0;
-            part(0, 0, 0);
+            part(worths, 0, 0, 0);
             for (int cell = 0; found > 0 && cell < cells; cell++) {
                 row.add(best[cell]);
             }
             return found;
         }
 
-        private void part(int from, int served, int depth) {
+        private void part(Worths worths, int from, int served, int depth) {
             if (from >= cells || depth >= MOST_CALM) {
-                if (from >= cells && othersAreCalm(served)) {
+                if (from >= cells && othersAreCalm(worths, served)) {
                     note();
                 }
                 return;
@@ -1757,29 +1752,30 @@ public final class ToOneCrumb {
                     stops[guest] = to;
                     // deeper slices write behind this one alone, so what stands ahead stays
                     owners[to - 1] = guest;
-                    if (isCalmWith(guest, served)) {
-                        part(to, served | 1 << guest, depth + 1);
+                    if (isCalmWith(worths, guest, served)) {
+                        part(worths, to, served | 1 << guest, depth + 1);
                     }
                 }
             }
         }
 
-        private boolean isCalmWith(int guest, int served) {
+        private boolean isCalmWith(Worths worths, int guest, int served) {
             for (int other = 0; other < guests; other++) {
-                if ((served >> other & 1) != 0 && (prefers(guest, other) || prefers(other, guest))) {
+                if ((served >> other & 1) != 0
+                        && (prefers(worths, guest, other) || prefers(worths, other, guest))) {
                     return false;
                 }
             }
             return true;
         }
 
-        private boolean prefers(int guest, int other) {
+        private boolean prefers(Worths worths, int guest, int other) {
             return worths.between(guest, starts[other], stops[other])
                     > worths.between(guest, starts[guest], stops[guest]);
         }
 
         /** One who has nothing is calm only if all cells are worth nothing to it. */
-        private boolean othersAreCalm(int served) {
+        private boolean othersAreCalm(Worths worths, int served) {
             for (int guest = 0; guest < guests; guest++) {
                 if ((served >> guest & 1) == 0 && worths.whole(guest) > 0) {
                     return false;

@@ -29,7 +29,9 @@ public final class LanguageTest {
         String[] words = {"->", "::", "\\btry\\b", "\\bcatch\\b", "\\bfinally\\b", "\\bassert\\b", "\\bsynchronized\\b",
             "static \\{", "\\bdouble\\b", "\\bfloat\\b", "Exact\\(", "\\bvar\\b", "\\bObject\\b", "\\bString\\b",
             "\\.equals\\(", "hashCode", "toString", "\\bSystem\\.(?!arraycopy)", "\\bThread\\b", "\\bRandom\\b",
-            "\"\\s*\\+", "\\+\\s*\"", "^package", "boolean\\[\\]"};
+            "\"\\s*\\+", "\\+\\s*\"", "^package", "boolean\\[\\]",
+            // rule 12: a constructor hands out nothing of what it makes
+            "= new [A-Z]\\w*\\([^)]"};
         for (String word : words) {
             Check.due("rules 2 to 13: " + word, Pattern.compile(word).matcher(code).find(), false);
         }
